@@ -688,12 +688,34 @@ public final class ModelTests {
         }
     }
 
+    /** SEEN of many rows by one object, one behind the other. */
+    private static void rows(int seed) {
+        Run r = new Run(seed);
+        int lane = r.chance.nextInt(4);
+        r.due("sheet(2, " + lane + ", 24)", r.x.sheet(2, lane, 24), r.m.sheet(2, lane, 24));
+        for (int round = 0; round < 10; round++) {
+            int least = 1 + r.chance.nextInt(7), most = least + r.chance.nextInt(9 - least);
+            int failure = 1 + r.chance.nextInt(99), change = r.chance.nextInt(failure);
+            r.due("tell(0, " + failure + ")", r.x.tell(0, failure), r.m.tell(0, failure));
+            r.due("tell(1, " + change + ")", r.x.tell(1, change), r.m.tell(1, change));
+            for (int i = 0; i < 24; i++) {
+                long v = least + r.chance.nextInt(most - least + 1);
+                r.due("item(2, " + lane + ", " + i + ", " + v + ")", r.x.item(2, lane, i, v), r.m.item(2, lane, i, v));
+            }
+            for (int time = 0; time < 12; time++) {
+                int n = 1 + r.chance.nextInt(12), i = r.chance.nextInt(25 - n);
+                r.due("seen(2, " + lane + ", " + i + ", " + n + ")", r.x.seen(2, lane, i, n), r.m.seen(2, lane, i, n));
+            }
+        }
+    }
+
     public static void main(String[] args) {
         int runs = args.length > 0 ? Integer.parseInt(args[0]) : 300;
         int first = args.length > 1 ? Integer.parseInt(args[1]) : 1;
         for (int seed = first; seed < first + runs && wrong < 50; seed++) {
             new Run(seed).all(500);
             whole(seed);
+            rows(seed);
             Run texts = new Run(-seed);
             for (int t = 0; t < 40; t++) texts.typed();
         }

@@ -544,6 +544,13 @@ public final class PromiseTests {
         x.tell(1, 99);
         due("seen: dear changes", x.seen(0, 2, 7, 12), 3);
         due("the table stays", x.count(1), 3);
+        // RATES of 8, 8: 8/7, 10/8; of all: 76/20, 80/22. What was seen ahead counts for nothing.
+        x.tell(1, 8);
+        put(x, 1, 1, 1, 1, 1, 1, 1, 1, 8, 8);
+        due("seen: 8 alone", x.seen(1, 1, 6, 2), 7);
+        due("seen: 1 and 8", x.seen(1, 1, 0, 8), 8);
+        due("seen: 8 alone again", x.seen(1, 1, 6, 2), 7);
+        x.tell(1, 99);
         put(x, 3, 3, 1L << 32 | 1, -1);
         dueAll("seen not by longs", ReplaceAges.NOT, x.seen(3, 3, 0, 1), x.seen(3, 3, 1, 1));
         put(x, 3, 0, 256 + 8);
